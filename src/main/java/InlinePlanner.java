@@ -357,7 +357,7 @@ public final class InlinePlanner {
         }
     }
 
-    /** The methods with their sites, and what a call can reach. A set of methods is a number with a bit for each. */
+    /** The methods with their sites, and what calls can reach. A set of methods is a number with a bit for each. */
     private static final class Program {
         int count;
         final int[] sizes = new int[MAX_METHODS];
@@ -482,7 +482,7 @@ public final class InlinePlanner {
         }
     }
 
-    /** The candidates that wait for their verdict, in the order in which they are taken, the next one last. */
+    /** The candidates that wait for their verdict; the one that is taken next stands last. */
     private static final class Waiting {
         int count;
         private final int[] slots = new int[MAX_SLOTS];
@@ -648,7 +648,7 @@ public final class InlinePlanner {
             count = left;
         }
 
-        /** Gives each node its new number, -1 if it goes, marks the sites that lose a node, and tells how many stay. */
+        /** Gives each node its new number, -1 if it goes, marks the sites that lose one, and tells how many stay. */
         private int numberAnew() {
             int left = 0;
             for (int node = 0; node < count; node++) {

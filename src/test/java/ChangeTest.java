@@ -3,6 +3,7 @@ public final class ChangeTest {
     private static final Class<IndexOutOfBoundsException> INDEX = IndexOutOfBoundsException.class;
     private static final Class<IllegalStateException> STATE = IllegalStateException.class;
     private static final int INLINED = 0;
+    private static final int NONE = 1;
     private static final int BROKEN = 7;
 
     public static void main(String[] args) {
@@ -26,8 +27,8 @@ public final class ChangeTest {
     /**
      * Classes 1 and 2 are live and below 0. Methods 0 to 3 belong to class 1 and have the selectors 0 to 3,
      * methods 4 and 5 belong to class 2 and have the selectors 0 and 1. The plan for 0 has the nodes
-     * 0: method 0; 1: method 1 at (0, 0); 2: method 4 at (0, 1); 3: method 2 at (1, 0); 4: method 5 at (2, 0);
-     * 5: method 3 at (3, 0).
+     * 0: method 0; 1: method 1 at (0, 0); 2: method 2 at (1, 0); 3: method 3 at (2, 0); 4: method 4 at (0, 1);
+     * 5: method 5 at (4, 0).
      */
     private static InlinePlanner planned() {
         InlinePlanner x = new InlinePlanner();
@@ -41,13 +42,13 @@ public final class ChangeTest {
         x.addCall(0, 1, 1, 20);
         x.addCall(0, 2, 0, 20);
         x.addCall(1, 1, 2, 1);
-        x.addCall(4, 2, 1, 1);
+        x.addCall(4, 2, 1, 2);
+        x.addCall(4, 0, 7, 3);
         x.addCall(2, 1, 3, 1);
         Check.due("plan(0)", 6, x.plan(0));
-        int[] methods = {0, 1, 2, 3, 4, 5};
-        // Merits: 20000 / 2, 20000 / 5; then 20000 / 3 behind node 1, 20000 / 4 behind that; 20000 / 6 behind 4.
+        // Merits: 20000 / 2, 20000 / 5; then 20000 / 3 behind node 1, 20000 / 4 behind that; 40000 / 6 behind 4.
         for (int node = 0; node < 6; node++) {
-            Check.due("method(" + node + ")", methods[node], x.method(node));
+            Check.due("method(" + node + ")", node, x.method(node));
         }
         return x;
     }
@@ -150,16 +151,18 @@ public final class ChangeTest {
         Check.due("verdict(0, 1)", INLINED, x.verdict(0, 1));
         Check.due("verdict(1, 0)", INLINED, x.verdict(1, 0));
         Check.due("weight(0, 0), as before", 20, x.weight(0, 0));
-        Check.due("weight(1, 0), moved", 20, x.weight(1, 0));
-        Check.due("siteCount(1)", 1, x.siteCount(1));
+        Check.due("weight(1, 0), moved", 40, x.weight(1, 0));
+        Check.due("weight(1, 1), moved", 60, x.weight(1, 1));
+        Check.due("verdict(1, 1), moved", NONE, x.verdict(1, 1));
+        Check.due("siteCount(1)", 2, x.siteCount(1));
         Check.due("weightOf(7)", 20, x.weightOf(BROKEN));
-        Check.due("weightOf(0)", 40, x.weightOf(INLINED));
-        Check.dueDouble("share()", 2.0 / 3.0, x.share());
+        Check.due("weightOf(0)", 60, x.weightOf(INLINED));
+        Check.dueDouble("share()", 3.0 / 7.0, x.share());
         Check.due("firstBroken()", -1, x.firstBroken());
         Check.dueThrow(x, "method(3)", INDEX, () -> x.method(3));
         Check.dueThrow(x, "holds(3)", INDEX, () -> x.holds(3) ? 1 : 0);
         Check.due("digest()", Check.digestOf(4, -1, 0, 0, 1, 0, 1, 1, 1, 7, 200, 4, 1,
-            3, 0, -1, 7, 20, 0, 20, 4, 0, 0, 20, 5, 1), x.digest());
+            3, 0, -1, 7, 20, 0, 20, 4, 0, 0, 40, 1, 60, 5, 1), x.digest());
     }
 
     private static void prunesBrokenBelowBroken() {
@@ -176,6 +179,11 @@ public final class ChangeTest {
         Check.due("method(2)", 4, x.method(2));
         Check.due("parentNode(2)", 0, x.parentNode(2));
         Check.due("parentNode(3)", 2, x.parentNode(3));
+        Check.due("siteOf(2)", 1, x.siteOf(2));
+        Check.due("depth(2)", 1, x.depth(2));
+        Check.due("depth(3)", 2, x.depth(3));
+        Check.due("verdict(2, 1), moved", NONE, x.verdict(2, 1));
+        Check.due("weight(2, 0), moved", 40, x.weight(2, 0));
     }
 
     private static void prunesAllButNodeZero() {
@@ -260,7 +268,7 @@ public final class ChangeTest {
     private static void digestOfPlans() {
         InlinePlanner x = planned();
         long[] numbers = {3, -1, 0, 0, 1, 0, 1, 6, 200, 4, 1, 6, 0, -1, 0, 20, 0, 20, 1, 0, 0, 20, 2, 1, 0, 20,
-            3, 2, 4, 0, 0, 20, 5, 4};
+            3, 2, 4, 0, 0, 40, 1, 60, 5, 4};
         Check.due("digest()", Check.digestOf(numbers), x.digest());
         x.setLimits(200, 4, 1);
         Check.due("digest(), the plan is removed", Check.digestOf(3, -1, 0, 0, 1, 0, 1, 6, 200, 4, 1), x.digest());

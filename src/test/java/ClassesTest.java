@@ -56,6 +56,13 @@ public final class ClassesTest {
         x.setLive(15, true);
         Check.due("liveBelow(0)", 1, x.liveBelow(0));
         Check.due("liveBelow(15)", 1, x.liveBelow(15));
+        x.addMethod(0, 0, 1);
+        Check.due("targetCount(0, 0), found for the last class", 1, x.targetCount(0, 0));
+        x.addMethod(15, 0, 1);
+        x.setLive(14, true);
+        Check.due("targetCount(0, 0)", 2, x.targetCount(0, 0));
+        Check.due("targetCount(15, 0)", 1, x.targetCount(15, 0));
+        Check.due("target(15, 0, 0)", 1, x.target(15, 0, 0));
     }
 
     private static void setsLive() {

@@ -341,6 +341,12 @@ public final class PlanTest {
         y.addCall(0, 0, 2, 1);
         y.plan(0);
         dueNode(y, 1, 2, 0, 1, 1);
+        // Both are 10, but with 999 or 1001 in place of 1000 the second one were greater.
+        InlinePlanner z = flat(1, 100, 91);
+        z.addCall(0, 0, 1, 1);
+        z.addCall(0, 0, 2, 1);
+        z.plan(0);
+        dueNode(z, 1, 1, 0, 0, 1);
     }
 
     private static void newCandidatesAreAmongThem() {
