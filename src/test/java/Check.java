@@ -23,6 +23,12 @@ final class Check {
         }
     }
 
+    static void dueText(String call, String want, String got) {
+        if (!got.equals(want)) {
+            report(call + " answered " + got + ", due is " + want);
+        }
+    }
+
     /** The call throws exactly this exception, and nothing changes that the checksum sees. */
     static void dueThrow(InlinePlanner x, String call, Class<? extends RuntimeException> want, LongSupplier run) {
         long before = x.digest();
@@ -36,6 +42,20 @@ final class Check {
             report(call + " threw " + got + ", due is " + want.getName());
         }
         due("digest() behind " + call, before, x.digest());
+    }
+
+    static void dueNode(InlinePlanner x, int node, int method, int parent, int site, int depth) {
+        due("method(" + node + ")", method, x.method(node));
+        due("parentNode(" + node + ")", parent, x.parentNode(node));
+        due("siteOf(" + node + ")", site, x.siteOf(node));
+        due("depth(" + node + ")", depth, x.depth(node));
+    }
+
+    static void dueVerdicts(InlinePlanner x, int node, int... verdicts) {
+        due("siteCount(" + node + ")", verdicts.length, x.siteCount(node));
+        for (int site = 0; site < verdicts.length; site++) {
+            due("verdict(" + node + ", " + site + ")", verdicts[site], x.verdict(node, site));
+        }
     }
 
     /** As the document tells it: d starts with 89 and becomes d * 31 + x for each number x. */

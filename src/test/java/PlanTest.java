@@ -38,23 +38,6 @@ public final class PlanTest {
         Check.end();
     }
 
-    /** Class 0 is live; method m has selector m and the m-th of the sizes. */
-    private static InlinePlanner flat(int... sizes) {
-        InlinePlanner x = new InlinePlanner();
-        x.setLive(0, true);
-        for (int m = 0; m < sizes.length; m++) {
-            x.addMethod(0, m, sizes[m]);
-        }
-        return x;
-    }
-
-    private static void dueNode(InlinePlanner x, int node, int method, int parent, int site, int depth) {
-        Check.due("method(" + node + ")", method, x.method(node));
-        Check.due("parentNode(" + node + ")", parent, x.parentNode(node));
-        Check.due("siteOf(" + node + ")", site, x.siteOf(node));
-        Check.due("depth(" + node + ")", depth, x.depth(node));
-    }
-
     private static void setsLimits() {
         InlinePlanner x = new InlinePlanner();
         Check.due("setLimits(200, 4, 1), as at first", false, x.setLimits(200, 4, 1));
@@ -69,7 +52,7 @@ public final class PlanTest {
     }
 
     private static void wrongLimits() {
-        InlinePlanner x = flat(1);
+        InlinePlanner x = States.flat(1);
         x.setLimits(7, 3, 2);
         x.plan(0);
         int[][] wrong = {{0, 4, 1}, {5001, 4, 1}, {200, -1, 1}, {200, 11, 1}, {200, 4, -1}, {200, 4, 6},
@@ -84,7 +67,7 @@ public final class PlanTest {
     }
 
     private static void simplePlan() {
-        InlinePlanner x = flat(10, 5, 7);
+        InlinePlanner x = States.flat(10, 5, 7);
         x.addCall(0, 0, 1, 3);
         x.addCall(0, 0, 2, 4);
         x.addCall(1, 0, 2, 2);
@@ -94,10 +77,10 @@ public final class PlanTest {
         Check.due("nodeCount()", 4, x.nodeCount());
         Check.due("size()", 10 + 5 + 7 + 7, x.size());
         // The merits: 3000 / 5 = 600 for method 1, 4000 / 7 = 571, then 6000 / 7 = 857 for the site in node 1.
-        dueNode(x, 0, 0, -1, -1, 0);
-        dueNode(x, 1, 1, 0, 0, 1);
-        dueNode(x, 2, 2, 1, 0, 2);
-        dueNode(x, 3, 2, 0, 1, 1);
+        Check.dueNode(x, 0, 0, -1, -1, 0);
+        Check.dueNode(x, 1, 1, 0, 0, 1);
+        Check.dueNode(x, 2, 2, 1, 0, 2);
+        Check.dueNode(x, 3, 2, 0, 1, 1);
         int[] sites = {2, 1, 0, 0};
         for (int node = 0; node < 4; node++) {
             Check.due("siteCount(" + node + ")", sites[node], x.siteCount(node));
@@ -113,19 +96,19 @@ public final class PlanTest {
     }
 
     private static void firstLimits() {
-        InlinePlanner x = flat(100, 100, 1);
+        InlinePlanner x = States.flat(100, 100, 1);
         x.addCall(0, 0, 1, 20);
         x.addCall(1, 0, 2, 1);
         Check.due("plan(0), budget 200 at first", 2, x.plan(0));
         Check.due("size()", 200, x.size());
         Check.due("verdict(1, 0)", DEAR, x.verdict(1, 0));
-        InlinePlanner y = flat(1, 1, 1, 1, 1, 1);
+        InlinePlanner y = States.flat(1, 1, 1, 1, 1, 1);
         for (int m = 0; m < 5; m++) {
             y.addCall(m, 0, m + 1, 1);
         }
         Check.due("plan(0), depth 4 at first", 5, y.plan(0));
         Check.due("verdict(4, 0)", DEEP, y.verdict(4, 0));
-        InlinePlanner z = flat(1);
+        InlinePlanner z = States.flat(1);
         z.addCall(0, 0, 0, 1);
         Check.due("plan(0), recursion 1 at first", 2, z.plan(0));
         Check.due("verdict(1, 0)", RECURSIVE, z.verdict(1, 0));
@@ -133,7 +116,7 @@ public final class PlanTest {
 
     /** Method 0 calls: nothing found, nothing live, two targets, itself, one target. */
     private static InlinePlanner mixed() {
-        InlinePlanner x = flat(10, 20, 30);
+        InlinePlanner x = States.flat(10, 20, 30);
         x.addClass(0);
         x.addClass(0);
         x.setLive(1, true);
@@ -146,18 +129,11 @@ public final class PlanTest {
         return x;
     }
 
-    private static void dueVerdicts(InlinePlanner x, int node, int... verdicts) {
-        Check.due("siteCount(" + node + ")", verdicts.length, x.siteCount(node));
-        for (int site = 0; site < verdicts.length; site++) {
-            Check.due("verdict(" + node + ", " + site + ")", verdicts[site], x.verdict(node, site));
-        }
-    }
-
     private static void earlyVerdicts() {
         InlinePlanner x = mixed();
         x.setLimits(200, 4, 0);
         Check.due("plan(0)", 2, x.plan(0));
-        dueVerdicts(x, 0, NONE, NONE, SEVERAL, RECURSIVE, INLINED);
+        Check.dueVerdicts(x, 0, NONE, NONE, SEVERAL, RECURSIVE, INLINED);
         for (int site = 0; site < 5; site++) {
             Check.due("weight(0, " + site + ")", site + 1, x.weight(0, site));
         }
@@ -167,10 +143,10 @@ public final class PlanTest {
         InlinePlanner x = mixed();
         x.setLimits(1, 0, 0);
         Check.due("plan(0)", 1, x.plan(0));
-        dueVerdicts(x, 0, NONE, NONE, SEVERAL, DEEP, DEEP);
+        Check.dueVerdicts(x, 0, NONE, NONE, SEVERAL, DEEP, DEEP);
         x.setLimits(1, 1, 0);
         x.plan(0);
-        dueVerdicts(x, 0, NONE, NONE, SEVERAL, RECURSIVE, DEAR);
+        Check.dueVerdicts(x, 0, NONE, NONE, SEVERAL, RECURSIVE, DEAR);
     }
 
     private static void depthBounds() {
@@ -194,7 +170,7 @@ public final class PlanTest {
     }
 
     private static void recursionBounds() {
-        InlinePlanner x = flat(1);
+        InlinePlanner x = States.flat(1);
         x.addCall(0, 0, 0, 2);
         for (int recursion = 0; recursion <= 5; recursion++) {
             x.setLimits(5000, 10, recursion);
@@ -205,7 +181,7 @@ public final class PlanTest {
     }
 
     private static void recursionCountsOnlyAncestors() {
-        InlinePlanner x = flat(1, 1, 1);
+        InlinePlanner x = States.flat(1, 1, 1);
         x.addCall(0, 0, 1, 1);
         x.addCall(0, 0, 1, 1);
         x.addCall(0, 0, 2, 1);
@@ -219,32 +195,32 @@ public final class PlanTest {
     }
 
     private static void budgetBounds() {
-        InlinePlanner x = flat(10, 5);
+        InlinePlanner x = States.flat(10, 5);
         x.addCall(0, 0, 1, 1);
         x.setLimits(15, 4, 1);
         Check.due("plan(0), just within the budget", 2, x.plan(0));
         x.setLimits(14, 4, 1);
         Check.due("plan(0), just beyond the budget", 1, x.plan(0));
-        dueVerdicts(x, 0, DEAR);
+        Check.dueVerdicts(x, 0, DEAR);
         x.setLimits(1, 4, 1);
         Check.due("plan(0), larger than the budget by itself", 1, x.plan(0));
         Check.due("size()", 10, x.size());
-        dueVerdicts(x, 0, DEAR);
+        Check.dueVerdicts(x, 0, DEAR);
     }
 
     private static void dearLeavesRoomForSmaller() {
-        InlinePlanner x = flat(10, 50, 5);
+        InlinePlanner x = States.flat(10, 50, 5);
         x.addCall(0, 0, 1, 20);
         x.addCall(0, 0, 2, 1);
         x.setLimits(15, 4, 1);
         Check.due("plan(0)", 2, x.plan(0));
-        dueVerdicts(x, 0, DEAR, INLINED);
-        dueNode(x, 1, 2, 0, 1, 1);
+        Check.dueVerdicts(x, 0, DEAR, INLINED);
+        Check.dueNode(x, 1, 2, 0, 1, 1);
     }
 
     /** Each of 0 and 1 calls the next one eight times. */
     private static InlinePlanner eightTimesEight() {
-        InlinePlanner x = flat(1, 1, 1);
+        InlinePlanner x = States.flat(1, 1, 1);
         for (int site = 0; site < 8; site++) {
             x.addCall(0, 0, 1, 1);
             x.addCall(1, 0, 2, 1);
@@ -260,10 +236,10 @@ public final class PlanTest {
         Check.due("size()", 50, x.size());
         Check.due("weightOf(6)", 72 - 49, x.weightOf(FULL));
         Check.due("weightOf(0)", 49, x.weightOf(INLINED));
-        dueNode(x, 8, 1, 0, 7, 1);
-        dueNode(x, 9, 2, 1, 0, 2);
-        dueNode(x, 49, 2, 6, 0, 2);
-        dueVerdicts(x, 6, INLINED, FULL, FULL, FULL, FULL, FULL, FULL, FULL);
+        Check.dueNode(x, 8, 1, 0, 7, 1);
+        Check.dueNode(x, 9, 2, 1, 0, 2);
+        Check.dueNode(x, 49, 2, 6, 0, 2);
+        Check.dueVerdicts(x, 6, INLINED, FULL, FULL, FULL, FULL, FULL, FULL, FULL);
         Check.dueThrow(x, "method(50)", INDEX, () -> x.method(50));
         Check.due("plan(1), a smaller one again", 9, x.plan(1));
     }
@@ -272,17 +248,17 @@ public final class PlanTest {
         InlinePlanner x = eightTimesEight();
         x.setLimits(50, 10, 5);
         Check.due("plan(0)", 50, x.plan(0));
-        dueVerdicts(x, 8, DEAR, DEAR, DEAR, DEAR, DEAR, DEAR, DEAR, DEAR);
+        Check.dueVerdicts(x, 8, DEAR, DEAR, DEAR, DEAR, DEAR, DEAR, DEAR, DEAR);
         x.setLimits(51, 10, 5);
         Check.due("plan(0)", 50, x.plan(0));
-        dueVerdicts(x, 8, FULL, FULL, FULL, FULL, FULL, FULL, FULL, FULL);
+        Check.dueVerdicts(x, 8, FULL, FULL, FULL, FULL, FULL, FULL, FULL, FULL);
         x.setLimits(49, 10, 5);
         Check.due("plan(0)", 49, x.plan(0));
         Check.due("weightOf(5)", 24, x.weightOf(DEAR));
     }
 
     private static void weightBound() {
-        InlinePlanner x = flat(1, 1, 1, 1, 1, 1, 1, 1);
+        InlinePlanner x = States.flat(1, 1, 1, 1, 1, 1, 1, 1);
         int[] frequencies = {20, 20, 20, 5, 5, 5, 1};
         for (int m = 0; m < 7; m++) {
             x.addCall(m, 0, m + 1, frequencies[m]);
@@ -296,69 +272,69 @@ public final class PlanTest {
             Check.due("weight(" + node + ", 0)", want[node], x.weight(node, 0));
         }
         Check.due("weight(5, 1), 1200000 without the bound", 1000000, x.weight(5, 1));
-        dueNode(x, 6, 6, 5, 0, 6);
-        dueNode(x, 7, 7, 5, 1, 6);
+        Check.dueNode(x, 6, 6, 5, 0, 6);
+        Check.dueNode(x, 7, 7, 5, 1, 6);
         Check.due("weight(6, 0)", 1000000, x.weight(6, 0));
         Check.due("weight(6, 1)", 1000000, x.weight(6, 1));
         Check.due("weightOf(0)", 248420 + 4000000, x.weightOf(INLINED));
     }
 
     private static void greatestMeritFirst() {
-        InlinePlanner x = flat(1, 10, 10, 4);
+        InlinePlanner x = States.flat(1, 10, 10, 4);
         x.addCall(0, 0, 1, 1);
         x.addCall(0, 0, 2, 2);
         x.addCall(0, 0, 3, 1);
         Check.due("plan(0)", 4, x.plan(0));
-        dueNode(x, 1, 3, 0, 2, 1);
-        dueNode(x, 2, 2, 0, 1, 1);
-        dueNode(x, 3, 1, 0, 0, 1);
+        Check.dueNode(x, 1, 3, 0, 2, 1);
+        Check.dueNode(x, 2, 2, 0, 1, 1);
+        Check.dueNode(x, 3, 1, 0, 0, 1);
     }
 
     private static void equalMerits() {
-        InlinePlanner x = flat(1, 10, 10, 10);
+        InlinePlanner x = States.flat(1, 10, 10, 10);
         x.addCall(0, 0, 1, 1);
         x.addCall(0, 0, 2, 1);
         x.addCall(1, 0, 3, 1);
         x.addCall(1, 0, 2, 1);
         Check.due("plan(0)", 5, x.plan(0));
-        dueNode(x, 1, 1, 0, 0, 1);
-        dueNode(x, 2, 2, 0, 1, 1);
-        dueNode(x, 3, 3, 1, 0, 2);
-        dueNode(x, 4, 2, 1, 1, 2);
+        Check.dueNode(x, 1, 1, 0, 0, 1);
+        Check.dueNode(x, 2, 2, 0, 1, 1);
+        Check.dueNode(x, 3, 3, 1, 0, 2);
+        Check.dueNode(x, 4, 2, 1, 1, 2);
     }
 
     private static void meritIsRoundedDown() {
         // 1000 / 70 and 1000 / 67 are both 14, rounded down; rounded to the nearest they were 14 and 15.
-        InlinePlanner x = flat(1, 70, 67);
+        InlinePlanner x = States.flat(1, 70, 67);
         x.addCall(0, 0, 1, 1);
         x.addCall(0, 0, 2, 1);
         x.plan(0);
-        dueNode(x, 1, 1, 0, 0, 1);
-        dueNode(x, 2, 2, 0, 1, 1);
+        Check.dueNode(x, 1, 1, 0, 0, 1);
+        Check.dueNode(x, 2, 2, 0, 1, 1);
         // 1000 / 72 is 13: without the factor 1000 both were 0.
-        InlinePlanner y = flat(1, 72, 67);
+        InlinePlanner y = States.flat(1, 72, 67);
         y.addCall(0, 0, 1, 1);
         y.addCall(0, 0, 2, 1);
         y.plan(0);
-        dueNode(y, 1, 2, 0, 1, 1);
+        Check.dueNode(y, 1, 2, 0, 1, 1);
         // Both are 10, but with 999 or 1001 in place of 1000 the second one were greater.
-        InlinePlanner z = flat(1, 100, 91);
+        InlinePlanner z = States.flat(1, 100, 91);
         z.addCall(0, 0, 1, 1);
         z.addCall(0, 0, 2, 1);
         z.plan(0);
-        dueNode(z, 1, 1, 0, 0, 1);
+        Check.dueNode(z, 1, 1, 0, 0, 1);
     }
 
     private static void newCandidatesAreAmongThem() {
-        InlinePlanner x = flat(1, 10, 20, 10);
+        InlinePlanner x = States.flat(1, 10, 20, 10);
         x.addCall(0, 0, 1, 2);
         x.addCall(0, 0, 2, 2);
         x.addCall(1, 0, 3, 1);
         x.setLimits(21, 4, 1);
         Check.due("plan(0)", 3, x.plan(0));
-        dueNode(x, 1, 1, 0, 0, 1);
-        dueNode(x, 2, 3, 1, 0, 2);
-        dueVerdicts(x, 0, INLINED, DEAR);
+        Check.dueNode(x, 1, 1, 0, 0, 1);
+        Check.dueNode(x, 2, 3, 1, 0, 2);
+        Check.dueVerdicts(x, 0, INLINED, DEAR);
     }
 
     private static void plansAreKeptAndRemoved() {
@@ -371,21 +347,21 @@ public final class PlanTest {
         x.addClass(0);
         x.addMethod(2, 7, 1);
         Check.due("hasPlan() behind changes of classes and methods", true, x.hasPlan());
-        dueVerdicts(x, 0, NONE, NONE, SEVERAL, RECURSIVE, INLINED);
+        Check.dueVerdicts(x, 0, NONE, NONE, SEVERAL, RECURSIVE, INLINED);
         Check.due("weightOf(2)", before, x.weightOf(SEVERAL));
         Check.dueThrow(x, "plan(5)", INDEX, () -> x.plan(5));
         Check.due("hasPlan() behind plan that threw", true, x.hasPlan());
         x.addCall(1, 0, 0, 1);
         Check.due("hasPlan() behind addCall", false, x.hasPlan());
         x.plan(0);
-        dueVerdicts(x, 0, INLINED, INLINED, INLINED, RECURSIVE, INLINED);
+        Check.dueVerdicts(x, 0, INLINED, INLINED, INLINED, RECURSIVE, INLINED);
         Check.due("setLimits(200, 4, 0), as before", false, x.setLimits(200, 4, 0));
         Check.due("hasPlan() behind setLimits", false, x.hasPlan());
         Check.dueThrow(x, "nodeCount() without a plan", STATE, () -> x.nodeCount());
     }
 
     private static void anotherPlan() {
-        InlinePlanner x = flat(1, 2, 3);
+        InlinePlanner x = States.flat(1, 2, 3);
         x.addCall(0, 0, 1, 2);
         x.addCall(0, 0, 2, 2);
         x.addCall(1, 0, 2, 9);
@@ -393,8 +369,8 @@ public final class PlanTest {
         Check.due("plan(1)", 2, x.plan(1));
         Check.due("nodeCount()", 2, x.nodeCount());
         Check.due("size()", 5, x.size());
-        dueNode(x, 0, 1, -1, -1, 0);
-        dueNode(x, 1, 2, 0, 0, 1);
+        Check.dueNode(x, 0, 1, -1, -1, 0);
+        Check.dueNode(x, 1, 2, 0, 0, 1);
         Check.due("weight(0, 0), the node's weight is 1", 9, x.weight(0, 0));
         Check.dueThrow(x, "method(2)", INDEX, () -> x.method(2));
         Check.dueThrow(x, "verdict(0, 1)", INDEX, () -> x.verdict(0, 1));
@@ -417,7 +393,7 @@ public final class PlanTest {
     }
 
     private static void shares() {
-        InlinePlanner x = flat(1, 1);
+        InlinePlanner x = States.flat(1, 1);
         x.plan(0);
         Check.dueDouble("share() without sites", 1.0, x.share());
         x.addCall(0, 0, 1, 1);
@@ -435,7 +411,7 @@ public final class PlanTest {
     }
 
     private static void withoutPlan() {
-        InlinePlanner x = flat(1);
+        InlinePlanner x = States.flat(1);
         for (int node : new int[] {0, -1, 50, Integer.MIN_VALUE, Integer.MAX_VALUE}) {
             String in = "(" + node + ") without a plan";
             Check.dueThrow(x, "method" + in, STATE, () -> x.method(node));
@@ -453,7 +429,7 @@ public final class PlanTest {
     }
 
     private static void wrongNodesAndSites() {
-        InlinePlanner x = flat(1, 1);
+        InlinePlanner x = States.flat(1, 1);
         x.addCall(0, 0, 1, 1);
         x.addCall(0, 0, 1, 1);
         x.plan(0);

@@ -4,10 +4,6 @@ import java.util.Random;
 public final class RandomRunsTest {
     private static final int RUNS = 1500;
     private static final int CALLS = 500;
-    private static final String[] NAMES = {null, null, "addClass", "setLive", "classCount", "parent", "isBelow",
-        "liveBelow", "addMethod", "addCall", "methodCount", "found", "targetCount", "target", "reached", "setLimits",
-        "plan", "hasPlan", "nodeCount", "size", "method", "parentNode", "siteOf", "depth", "siteCount", "verdict",
-        "weight", "weightOf", "share", "holds", "firstBroken", "prune"};
     private static final int[] EXTREMES = {-1, 8, 16, 30, 50, Integer.MIN_VALUE, Integer.MAX_VALUE};
     /** How often each verdict, a plan with 50 nodes, and a prune that removes something were seen. */
     private static final long[] SEEN = new long[10];
@@ -135,53 +131,8 @@ public final class RandomRunsTest {
         } catch (RuntimeException e) {
             want = e.getClass().getName();
         }
-        String got;
-        try {
-            got = String.valueOf(planned(promise, a, b, c, d));
-        } catch (RuntimeException e) {
-            got = e.getClass().getName();
-        }
-        if (!got.equals(want)) {
-            Check.report("run " + run + ": " + NAMES[promise] + " of " + a + ", " + b + ", " + c + ", " + d
-                + " answered " + got + ", due is " + want);
-        }
+        Check.dueText("run " + run + ": " + Calls.text(promise, a, b, c, d), want,
+            Calls.answer(planner, promise, a, b, c, d));
         return answer;
-    }
-
-    private double planned(int promise, int a, int b, int c, int d) {
-        InlinePlanner x = planner;
-        switch (promise) {
-            case 2: return x.addClass(a);
-            case 3: return x.setLive(a, b != 0) ? 1 : 0;
-            case 4: return x.classCount();
-            case 5: return x.parent(a);
-            case 6: return x.isBelow(a, b) ? 1 : 0;
-            case 7: return x.liveBelow(a);
-            case 8: return x.addMethod(a, b, c);
-            case 9: return x.addCall(a, b, c, d);
-            case 10: return x.methodCount();
-            case 11: return x.found(a, b);
-            case 12: return x.targetCount(a, b);
-            case 13: return x.target(a, b, c);
-            case 14: return x.reached(a);
-            case 15: return x.setLimits(a, b, c) ? 1 : 0;
-            case 16: return x.plan(a);
-            case 17: return x.hasPlan() ? 1 : 0;
-            case 18: return x.nodeCount();
-            case 19: return x.size();
-            case 20: return x.method(a);
-            case 21: return x.parentNode(a);
-            case 22: return x.siteOf(a);
-            case 23: return x.depth(a);
-            case 24: return x.siteCount(a);
-            case 25: return x.verdict(a, b);
-            case 26: return x.weight(a, b);
-            case 27: return x.weightOf(a);
-            case 28: return x.share();
-            case 29: return x.holds(a) ? 1 : 0;
-            case 30: return x.firstBroken();
-            case 31: return x.prune();
-            default: throw new AssertionError("no promise " + promise);
-        }
     }
 }
