@@ -582,8 +582,12 @@ public final class InlinePlanner {
             targets[at] = program.member(set, 0);
             verdicts[at] = earlyVerdict(node, Integer.bitCount(set), targets[at]);
             if (verdicts[at] == CANDIDATE) {
-                waiting.insert(at, MERIT_SCALE * weights[at] / program.sizes[targets[at]]);
+                waiting.insert(at, merit(weights[at], program.sizes[targets[at]]));
             }
+        }
+
+        private static int merit(int weight, int targetSize) {
+            return targetSize < 1 ? 0 : MERIT_SCALE * weight / targetSize;
         }
 
         private int earlyVerdict(int node, int targetCount, int firstTarget) {

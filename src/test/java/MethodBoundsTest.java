@@ -42,6 +42,7 @@ public final class MethodBoundsTest {
         targetsOfNoClassOrSelector();
         reachesItself();
         reachesAll();
+        reachesByEachSite();
         reachesRoundCircle();
         reachesOnlyThroughTargets();
         reachedFromNoMethod();
@@ -480,6 +481,15 @@ public final class MethodBoundsTest {
         Check.due("reached(28)", 1 << 28 | 1 << 29, x.reached(28));
         Check.due("reached(29)", 536870912, x.reached(29));
         Check.due("reached(24)", 0x3f000000, x.reached(24));
+    }
+
+    /** From the first to the last site: each of the eight has a target of its own. */
+    private static void reachesByEachSite() {
+        InlinePlanner x = States.row(30, 1);
+        for (int site = 0; site < 8; site++) {
+            States.call(x, 0, 22 + site, 1);
+            Check.due("reached(0) by sites: " + (site + 1), 1 | (2 << site) - 1 << 22, x.reached(0));
+        }
     }
 
     private static void reachesRoundCircle() {

@@ -45,6 +45,7 @@ public final class PlanBoundsTest {
         behindDearComesSmaller();
         justFiftyNodes();
         fiftyFirstNode();
+        fourHundredCandidates();
         dearOrFull();
         removedByAddCall();
         keptByRefusedCalls();
@@ -232,14 +233,19 @@ public final class PlanBoundsTest {
         Check.dueVerdicts(x, 10, DEEP);
     }
 
+    /** The copies of methods 1 and 2 that are there already when a node is made are not its ancestors. */
     private static void recursionBesideNotCounted() {
-        InlinePlanner x = States.flat(1, 1);
+        InlinePlanner x = States.flat(1, 1, 1);
         for (int site = 0; site < 8; site++) {
             x.addCall(0, 0, 1, 1);
         }
+        x.addCall(1, 0, 2, 20);
         x.setLimits(5000, 10, 0);
-        Check.due("plan(0), eight copies side by side", 9, x.plan(0));
+        Check.due("plan(0), eight copies of each side by side", 17, x.plan(0));
         Check.dueVerdicts(x, 0, INLINED, INLINED, INLINED, INLINED, INLINED, INLINED, INLINED, INLINED);
+        for (int node = 1; node < 17; node += 2) {
+            Check.dueNode(x, node + 1, 2, node, 0, 2);
+        }
     }
 
     // "A site gets a verdict at once if one of the following applies, the first one of them."
@@ -479,6 +485,23 @@ public final class PlanBoundsTest {
         Check.dueVerdicts(x, 0, INLINED, INLINED, INLINED, INLINED, INLINED, INLINED, INLINED, INLINED);
         Check.dueVerdicts(x, 7, INLINED, INLINED, INLINED, INLINED, INLINED, FULL);
         Check.dueThrow(x, "method(50)", INDEX, () -> x.method(50));
+    }
+
+    /** 50 nodes with 8 sites each, all of which are candidates: each of them gets a verdict. */
+    private static void fourHundredCandidates() {
+        InlinePlanner x = tree(1, 8, 8);
+        x.addMethod(4, 7, 1);
+        for (int site = 0; site < 8; site++) {
+            x.addCall(2, 4, 7, 1);
+        }
+        x.setLimits(5000, 10, 5);
+        Check.due("plan(0)", 50, x.plan(0));
+        Check.due("weightOf(0)", 49, x.weightOf(INLINED));
+        Check.due("weightOf(6)", 351, x.weightOf(FULL));
+        Check.due("verdict(49, 7), the last one of them", FULL, x.verdict(49, 7));
+        x.setLimits(1, 10, 5);
+        Check.due("plan(0)", 1, x.plan(0));
+        Check.due("weightOf(5)", 8, x.weightOf(DEAR));
     }
 
     /** With 50 nodes a candidate that just fits into the budget is full, and one that does not fit is dear. */

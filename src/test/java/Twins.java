@@ -48,10 +48,11 @@ final class Twins {
             Calls.NODE_COUNT, Calls.SIZE, Calls.SHARE, Calls.FIRST_BROKEN}) {
             all.add(new int[] {promise});
         }
-        for (int c = 0; c <= x.classCount(); c++) {
+        int classes = x.classCount();
+        for (int c = 0; c <= classes; c++) {
             all.add(new int[] {Calls.PARENT, c});
             all.add(new int[] {Calls.LIVE_BELOW, c});
-            for (int d = 0; d < x.classCount(); d++) {
+            for (int d = 0; d < classes; d++) {
                 all.add(new int[] {Calls.IS_BELOW, c, d});
             }
             for (int selector = 0; selector < 8; selector++) {
