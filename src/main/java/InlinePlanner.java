@@ -97,7 +97,7 @@ public final class InlinePlanner {
         if (size < 1 || size > MAX_METHOD_SIZE) {
             throw new IllegalArgumentException("the size is not 1 to 100");
         }
-        if (program.ownMethod(c, selector) >= 0) {
+        if (program.hasOwn(c, selector)) {
             throw new IllegalArgumentException("the class has a method for this selector");
         }
         if (program.count >= MAX_METHODS) {
@@ -373,8 +373,8 @@ public final class InlinePlanner {
             this.hierarchy = hierarchy;
         }
 
-        int ownMethod(int c, int selector) {
-            return own[c * SELECTORS + selector] - 1;
+        boolean hasOwn(int c, int selector) {
+            return own[c * SELECTORS + selector] > 0;
         }
 
         int appendMethod(int c, int selector, int size) {
@@ -396,12 +396,13 @@ public final class InlinePlanner {
         }
 
         int lookUp(int c, int selector) {
-            // Every parent has a smaller number, so the nearest class with a method comes first.
-            for (int d = c; d >= 0; d--) {
-                int m = ownMethod(d, selector);
-                if (m >= 0 && hierarchy.under(c, d)) {
+            int d = c;
+            for (int level = 0; level < MAX_CLASSES && d >= 0; level++) {
+                int m = own[d * SELECTORS + selector] - 1;
+                if (m >= 0) {
                     return m;
                 }
+                d = hierarchy.parents[d];
             }
             return -1;
         }
